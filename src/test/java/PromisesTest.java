@@ -53,6 +53,7 @@ public final class PromisesTest {
         way();
         wayEdges();
         wayMoved();
+        wayOfLaterEnds();
         wayOfMostParts();
         promise = 17;
         part();
@@ -355,6 +356,11 @@ public final class PromisesTest {
         }
         x.report(2, 20, 501, 0, 0, SPAN, 1, 2);
         is("another hole", x.trace(2, 1), 2);
+        x.report(2, 21, 500, 0, 0, SPAN, 4, 5);
+        x.report(2, 22, 501, 0, 0, SPAN, 0, 5);
+        is("holes are counted once", x.trace(2, 1), 2);
+        x.report(2, 23, 23, 0, 0, SPAN, 0, 5);
+        is("lost at once", x.trace(2, 2), 3);
         x.report(2, 9, 10, 0, 0, ASK, 5, 6);
         is("greater, it does not stay", x.trace(2, 3), 1);
         x.report(3, 1, 2, 0, 0, ASK, 5, 6);
@@ -619,7 +625,9 @@ public final class PromisesTest {
         is("all", x.count(10), 6);
         x.check();
         is("none any more", x.count(10), 0);
-        is("the first anew", x.attempt(3, 1), 1);
+        for (int s = 0; s < 6; s++) {
+            is("each anew", x.attempt(s, 1), s + 1);
+        }
     }
 
     private static void check() {
@@ -733,6 +741,17 @@ public final class PromisesTest {
         y.put();
         is("the root's own times are moved too", y.way(1, 0), 1);
         parts("root moved", y, new long[] {1, 503, 509});
+    }
+
+    /** Kids whose ends are not in the order of their begins. */
+    private static void wayOfLaterEnds() {
+        TracePost x = new TracePost();
+        x.report(0, 1, 0, 0, 0, SPAN, 0, 100);
+        x.report(0, 2, 1, 0, 0, SPAN, 10, 90);
+        x.report(0, 3, 1, 0, 0, SPAN, 20, 30);
+        x.report(0, 4, 1, 0, 0, SPAN, 40, 89);
+        is("the greatest end", x.way(0, 0), 3);
+        parts("the greatest end", x, new long[] {1, 0, 10}, new long[] {2, 10, 90}, new long[] {1, 90, 100});
     }
 
     /** One root with 29 kids, and a gap between each two. */
@@ -874,6 +893,11 @@ public final class PromisesTest {
         x.report(8, 1, 0, 0, 3, SPAN, 6, 100);
         x.slow(3, 1000000000);
         is("another path", x.close(8), 3);
+        x.slow(4, 1);
+        x.report(10, 1, 0, 0, 4, SPAN, 7, 7);
+        x.report(11, 1, 0, 0, 4, SPAN, 7, 8);
+        is("0 is not slow", x.close(10), 3);
+        is("1 is", x.close(11), 1);
         x.slow(3, 94);
         x.report(9, 1, 500, 0, 3, SPAN, 6, 100);
         is("just slow, below a hole", x.close(9), 1);
@@ -910,6 +934,14 @@ public final class PromisesTest {
         is("by moved times 0 1", x.way(7, 0), 2);
         is("the path is by moved times", x.close(7), 0);
         is("as that of 3", x.stands(3), 2);
+        x.report(8, 1, 0, 3, 3, SPAN, 0, 100);
+        is("path 3", x.close(8), 3);
+        x.report(9, 1, 0, 2, 2, SPAN, 0, 100);
+        x.report(9, 2, 1, 4, 4, SPAN, 10, 20);
+        x.report(9, 3, 1, 5, 5, SPAN, 30, 40);
+        is("a longer one", x.close(9), 3);
+        x.report(10, 1, 0, 3, 3, SPAN, 0, 100);
+        is("nothing of the longer one is left", x.close(10), 0);
     }
 
     private static void kept() {
